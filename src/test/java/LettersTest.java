@@ -5,6 +5,7 @@ public final class LettersTest {
         doubledAnswersCountOnce();
         lateAnswersDoNotCount();
         refusalsCountForTheNextRound();
+        greatestRefusalCounts();
         refusalsOfAnEarlierAskingCount();
         refusalsOfAnotherSupplyDoNotCount();
         newAskingForgetsRefusals();
@@ -157,6 +158,23 @@ public final class LettersTest {
         lower.deliver(24);
         lower.retry(1, 0);
         Checks.due("told 77: above that", 101, lower.kept(1, 0, 6));
+    }
+
+    private static void greatestRefusalCounts() {
+        SupplyGrid grid = with(2, 0);
+        grid.ask(24, 0, 6);
+        grid.deliver(11);
+        grid.retry(24, 0);
+        grid.retry(24, 0);
+        grid.deliver(60);
+        dropAll(grid);
+        grid.ask(3, 0, 7);
+        hand(grid, 1, 3, 10);
+        hand(grid, 1, 3, 11);
+        hand(grid, 5, 10, 3);
+        hand(grid, 5, 11, 3);
+        grid.retry(3, 0);
+        Checks.due("told 99 and then 49: above both", 103, grid.kept(3, 0, 6));
     }
 
     private static void refusalsOfAnEarlierAskingCount() {

@@ -411,12 +411,27 @@ public final class PromisesTest {
         Checks.same("letter 5", "5 0 1 6 1 51 76 -1 -1 0", Checks.letter(kinds, 74));
         kinds.deliver(15);
         Checks.same("letter 5 of a letter 3", "5 20 9 6 1 34 76 -1 -1 0", Checks.letter(kinds, 74));
-        kinds.drop(74);
-        kinds.deliverAll(40);
+        kinds.teach(9, 1, 6);
+        Checks.same("a letter 6 tells nothing of the letter before", "6 9 1 6 0 0 0 -1 -1 0", Checks.letter(kinds, 75));
+        kinds.deliver(kinds.pool() - 2);
+        kinds.retry(9, 6);
+        Checks.same("nor does a letter 1", "1 9 0 6 1 84 0 -1 -1 0", Checks.letter(kinds, 75));
+        kinds.deliver(75);
+        Checks.same("letter 2 with an accepted pair", "2 0 9 6 1 84 34 9 77 0", Checks.letter(kinds, 99));
+        kinds.drop(0);
+        kinds.teach(9, 1, 6);
+        Checks.same("a letter 6 has no pair", "6 9 1 6 0 0 0 -1 -1 0", Checks.letter(kinds, 99));
+        letterSix();
+    }
+
+    private static void letterSix() {
+        SupplyGrid kinds = with(6, 2, 0);
+        decide(kinds, 9, 6, 77);
+        kinds.ask(1, 6, 5);
         kinds.deliverAll(2000);
         kinds.ask(3, 6, 78);
         kinds.deliver(1);
-        Checks.same("letter 6", "6 1 3 6 1 78 0 -1 -1 1", Checks.letter(kinds, 24));
+        Checks.same("letter 6", "6 1 3 6 1 53 0 -1 -1 1", Checks.letter(kinds, 24));
     }
 
     private static void state() {

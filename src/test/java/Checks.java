@@ -7,14 +7,20 @@ final class Checks {
     static final int OTHER = -1003;
 
     private static int wrong = 0;
+    private static String sentence = "";
 
     private Checks() {
+    }
+
+    /** The sentence of the document that the checks after this call are about. */
+    static void sentence(String words) {
+        sentence = words + ": ";
     }
 
     static void due(String what, long want, long got) {
         if (got != want) {
             wrong++;
-            System.out.println(what + " answered " + got + ", due is " + want);
+            System.out.println(sentence + what + " answered " + got + ", due is " + want);
         }
     }
 
@@ -25,7 +31,7 @@ final class Checks {
     static void same(String what, String want, String got) {
         if (!want.equals(got)) {
             wrong++;
-            System.out.println(what + ":\n  due " + want + "\n  got " + got);
+            System.out.println(sentence + what + ":\n  due " + want + "\n  got " + got);
         }
     }
 
@@ -38,13 +44,13 @@ final class Checks {
         } catch (IllegalStateException e) {
             return e.getClass() == IllegalStateException.class ? STATE : OTHER;
         } catch (RuntimeException e) {
-            System.out.println("the machine threw: " + e);
+            System.out.println(sentence + "the machine threw: " + e);
             return OTHER;
         }
     }
 
     /** The call throws this, and nothing that can be read of the object changes. */
-    static void refused(SupplyGrid grid, String what, int kind, IntSupplier call) {
+    static void refused(Run grid, String what, int kind, IntSupplier call) {
         String before = all(grid);
         due(what, kind, answer(call));
         same(what + " changes nothing", before, all(grid));
@@ -57,8 +63,8 @@ final class Checks {
         }
     }
 
-    /** All that can be read of an object. (It takes more than 512 calls, which this class bears.) */
-    static String all(SupplyGrid grid) {
+    /** All that can be read of an object. */
+    static String all(Run grid) {
         StringBuilder text = new StringBuilder();
         text.append(grid.live()).append(';');
         for (int what = 0; what < 3; what++) {
@@ -76,7 +82,7 @@ final class Checks {
         return text.toString();
     }
 
-    static String letter(SupplyGrid grid, int i) {
+    static String letter(Run grid, int i) {
         StringBuilder text = new StringBuilder();
         for (int what = 0; what < 10; what++) {
             text.append(what == 0 ? "" : " ").append(grid.letter(i, what));
@@ -84,7 +90,7 @@ final class Checks {
         return text.toString();
     }
 
-    static String kept(SupplyGrid grid, int shop, int prescription) {
+    static String kept(Run grid, int shop, int prescription) {
         StringBuilder text = new StringBuilder();
         for (int what = 0; what < 9; what++) {
             text.append(what == 0 ? "" : " ").append(grid.kept(shop, prescription, what));
@@ -92,7 +98,7 @@ final class Checks {
         return text.toString();
     }
 
-    private static String desk(SupplyGrid grid, int shop, int prescription) {
+    private static String desk(Run grid, int shop, int prescription) {
         StringBuilder text = new StringBuilder(kept(grid, shop, prescription));
         text.append(" state ").append(grid.state(shop, prescription));
         for (int supply = 1; supply <= 12; supply++) {

@@ -27,15 +27,9 @@ public final class PromisesTest {
         Checks.end();
     }
 
-    private static SupplyGrid with(int prescription, int supplies, int apart) {
-        SupplyGrid grid = new SupplyGrid();
-        grid.register(prescription, supplies, apart);
-        return grid;
-    }
-
     /** A grid in the midst of things: askings in both phases, decided pairs, letters, a shop down. */
-    private static SupplyGrid busy() {
-        SupplyGrid grid = with(4, 3, 10);
+    private static Run busy() {
+        Run grid = Scenes.with(4, 3, 10);
         grid.register(5, 1, 0);
         grid.ask(7, 4, 100);
         grid.deliverAll(2000);
@@ -46,13 +40,8 @@ public final class PromisesTest {
         return grid;
     }
 
-    private static void decide(SupplyGrid grid, int shop, int prescription, int day) {
-        grid.ask(shop, prescription, day);
-        grid.deliverAll(2000);
-    }
-
     private static void newObject() {
-        SupplyGrid grid = new SupplyGrid();
+        Run grid = new Run();
         Checks.due("pool of a new object", 0, grid.pool());
         Checks.due("live of a new object", 3, grid.live());
         for (int what = 0; what < 3; what++) {
@@ -71,7 +60,7 @@ public final class PromisesTest {
     }
 
     private static void register() {
-        SupplyGrid grid = new SupplyGrid();
+        Run grid = new Run();
         int[][] wrong = {{0, 0, 0}, {0, 13, 0}, {0, 1, -1}, {0, 1, 91}, {-1, 1, 0}, {20, 1, 0},
             {0, Integer.MIN_VALUE, 0}, {0, 1, Integer.MAX_VALUE}, {Integer.MAX_VALUE, 1, 0}};
         for (int[] w : wrong) {
@@ -90,18 +79,18 @@ public final class PromisesTest {
             grid.register(19, 13, 90);
             return 0;
         });
-        decide(grid, 4, 0, 8);
+        Scenes.decide(grid, 4, 0, 8);
         Checks.due("the second registering changed no supplies", Checks.STATE, Checks.answer(() -> grid.ask(4, 0, 100000)));
         Checks.due("one that was refused can be registered", 25, registerAndAsk(grid));
     }
 
-    private static int registerAndAsk(SupplyGrid grid) {
+    private static int registerAndAsk(Run grid) {
         grid.register(7, 12, 90);
         return grid.ask(0, 7, 0);
     }
 
     private static void ask() {
-        SupplyGrid grid = with(3, 2, 5);
+        Run grid = Scenes.with(3, 2, 5);
         for (int shop : NO_SHOPS) {
             Checks.refused(grid, "ask of shop " + shop, Checks.ARGUMENT, () -> grid.ask(shop, 3, 0));
         }
@@ -132,8 +121,8 @@ public final class PromisesTest {
     }
 
     private static void askAfterDecided() {
-        SupplyGrid grid = with(3, 2, 5);
-        decide(grid, 24, 3, 50);
+        Run grid = Scenes.with(3, 2, 5);
+        Scenes.decide(grid, 24, 3, 50);
         Checks.refused(grid, "ask 4 days behind", Checks.STATE, () -> grid.ask(24, 3, 54));
         Checks.refused(grid, "ask before the last", Checks.STATE, () -> grid.ask(24, 3, 40));
         Checks.due("another that knows nothing may", 25, grid.ask(23, 3, 40));
@@ -144,17 +133,17 @@ public final class PromisesTest {
         Checks.due("with what it knows", 1, grid.letter(0, 9));
         grid.deliverAll(2000);
         Checks.refused(grid, "ask, all are decided", Checks.STATE, () -> grid.ask(24, 3, 100000));
-        SupplyGrid near = with(0, 12, 0);
-        decide(near, 1, 0, 8);
+        Run near = Scenes.with(0, 12, 0);
+        Scenes.decide(near, 1, 0, 8);
         Checks.refused(near, "ask before the last, 0 apart", Checks.STATE, () -> near.ask(1, 0, 7));
         Checks.due("ask on the same day, 0 apart", 25, near.ask(1, 0, 8));
-        SupplyGrid late = with(0, 2, 90);
-        decide(late, 1, 0, 100000);
+        Run late = Scenes.with(0, 2, 90);
+        Scenes.decide(late, 1, 0, 100000);
         Checks.refused(late, "no day is left", Checks.STATE, () -> late.ask(1, 0, 100000));
     }
 
     private static void retry() {
-        SupplyGrid grid = with(3, 2, 5);
+        Run grid = Scenes.with(3, 2, 5);
         Checks.refused(grid, "retry without asking", Checks.STATE, () -> grid.retry(0, 3));
         Checks.refused(grid, "retry, not registered", Checks.STATE, () -> grid.retry(0, 2));
         grid.ask(5, 3, 7);
@@ -182,7 +171,7 @@ public final class PromisesTest {
     }
 
     private static void deliver() {
-        SupplyGrid grid = with(3, 2, 5);
+        Run grid = Scenes.with(3, 2, 5);
         Checks.refused(grid, "deliver without letters", Checks.ARGUMENT, () -> grid.deliver(0));
         grid.ask(2, 3, 7);
         for (int i : new int[] {-1, 25, 100, Integer.MIN_VALUE, Integer.MAX_VALUE}) {
@@ -216,7 +205,7 @@ public final class PromisesTest {
 
     /** Letters before and behind the one that is taken stay as they are, and in their order. */
     private static void deliverInTheMiddle() {
-        SupplyGrid grid = with(3, 2, 5);
+        Run grid = Scenes.with(3, 2, 5);
         for (int shop = 0; shop < 3; shop++) {
             grid.ask(shop, 3, 7);
             grid.deliverAll(10);
@@ -239,7 +228,7 @@ public final class PromisesTest {
     }
 
     private static void drop() {
-        SupplyGrid grid = with(3, 2, 5);
+        Run grid = Scenes.with(3, 2, 5);
         Checks.refused(grid, "drop without letters", Checks.ARGUMENT, () -> grid.drop(0));
         grid.ask(2, 3, 7);
         for (int i : new int[] {-1, 25, Integer.MIN_VALUE, Integer.MAX_VALUE}) {
@@ -258,7 +247,7 @@ public final class PromisesTest {
     }
 
     private static void copy() {
-        SupplyGrid grid = with(3, 2, 5);
+        Run grid = Scenes.with(3, 2, 5);
         Checks.refused(grid, "copy without letters", Checks.ARGUMENT, () -> grid.copy(0) ? 1 : 0);
         grid.ask(2, 3, 7);
         for (int i : new int[] {-1, 25, Integer.MIN_VALUE, Integer.MAX_VALUE}) {
@@ -276,8 +265,8 @@ public final class PromisesTest {
         Checks.same("copy without room changes nothing", before, Checks.all(grid));
         Checks.due("a copy is not sent", 25, grid.total(2));
         Checks.due("a copy is not lost", 0, grid.total(0));
-        SupplyGrid wise = with(3, 2, 5);
-        decide(wise, 2, 3, 9);
+        Run wise = Scenes.with(3, 2, 5);
+        Scenes.decide(wise, 2, 3, 9);
         wise.teach(2, 4, 3);
         wise.copy(0);
         wise.drop(0);
@@ -286,7 +275,7 @@ public final class PromisesTest {
     }
 
     private static void deliverAll() {
-        SupplyGrid grid = with(3, 2, 5);
+        Run grid = Scenes.with(3, 2, 5);
         for (int n : new int[] {-1, 2001, Integer.MIN_VALUE, Integer.MAX_VALUE}) {
             Checks.refused(grid, "deliverAll " + n, Checks.ARGUMENT, () -> grid.deliverAll(n));
         }
@@ -307,7 +296,7 @@ public final class PromisesTest {
     }
 
     private static void up() {
-        SupplyGrid grid = busy();
+        Run grid = busy();
         for (int shop : NO_SHOPS) {
             Checks.refused(grid, "up " + shop, Checks.ARGUMENT, () -> grid.up(shop, true) ? 1 : 0);
             Checks.refused(grid, "down " + shop, Checks.ARGUMENT, () -> grid.up(shop, false) ? 1 : 0);
@@ -328,7 +317,7 @@ public final class PromisesTest {
         Checks.due("it knows its pair", 100, grid.granted(7, 4, 1, true));
         grid.ask(7, 4, 110);
         Checks.due("it asks above what it asked with", 82, grid.kept(7, 4, 6));
-        SupplyGrid promised = with(0, 1, 0);
+        Run promised = Scenes.with(0, 1, 0);
         promised.ask(3, 0, 6);
         promised.deliverAll(70);
         promised.up(1, false);
@@ -338,7 +327,7 @@ public final class PromisesTest {
     }
 
     private static void teach() {
-        SupplyGrid grid = busy();
+        Run grid = busy();
         for (int shop : NO_SHOPS) {
             Checks.refused(grid, "teach from " + shop, Checks.ARGUMENT, () -> grid.teach(shop, 1, 4) ? 1 : 0);
             Checks.refused(grid, "teach to " + shop, Checks.ARGUMENT, () -> grid.teach(1, shop, 4) ? 1 : 0);
@@ -371,7 +360,7 @@ public final class PromisesTest {
     }
 
     private static void pool() {
-        SupplyGrid grid = with(0, 1, 0);
+        Run grid = Scenes.with(0, 1, 0);
         for (int i = 1; i <= 6; i++) {
             grid.ask(i, 0, 0);
             Checks.due("pool after " + i, Math.min(100, 25 * i), grid.pool());
@@ -385,14 +374,14 @@ public final class PromisesTest {
     }
 
     private static void letter() {
-        SupplyGrid grid = busy();
+        Run grid = busy();
         for (int i : new int[] {-1, grid.pool(), 100, Integer.MIN_VALUE, Integer.MAX_VALUE}) {
             Checks.refused(grid, "letter " + i, Checks.ARGUMENT, () -> grid.letter(i, 0));
         }
         for (int what : new int[] {-1, 10, Integer.MIN_VALUE, Integer.MAX_VALUE}) {
             Checks.refused(grid, "letter's " + what, Checks.ARGUMENT, () -> grid.letter(0, what));
         }
-        SupplyGrid kinds = with(6, 2, 0);
+        Run kinds = Scenes.with(6, 2, 0);
         kinds.ask(9, 6, 77);
         Checks.same("letter 1", "1 9 0 6 1 34 0 -1 -1 0", Checks.letter(kinds, 0));
         kinds.deliverAll(25);
@@ -425,8 +414,8 @@ public final class PromisesTest {
     }
 
     private static void letterSix() {
-        SupplyGrid kinds = with(6, 2, 0);
-        decide(kinds, 9, 6, 77);
+        Run kinds = Scenes.with(6, 2, 0);
+        Scenes.decide(kinds, 9, 6, 77);
         kinds.ask(1, 6, 5);
         kinds.deliverAll(2000);
         kinds.ask(3, 6, 78);
@@ -435,7 +424,7 @@ public final class PromisesTest {
     }
 
     private static void state() {
-        SupplyGrid grid = with(2, 2, 0);
+        Run grid = Scenes.with(2, 2, 0);
         Checks.due("state, not registered", 0, grid.state(0, 1));
         Checks.due("state, neither", 0, grid.state(0, 2));
         grid.ask(0, 2, 3);
@@ -464,10 +453,10 @@ public final class PromisesTest {
     }
 
     private static void granted() {
-        SupplyGrid grid = with(2, 3, 0);
-        decide(grid, 0, 2, 3);
-        decide(grid, 0, 2, 100000);
-        decide(grid, 24, 2, 9);
+        Run grid = Scenes.with(2, 3, 0);
+        Scenes.decide(grid, 0, 2, 3);
+        Scenes.decide(grid, 0, 2, 100000);
+        Scenes.decide(grid, 24, 2, 9);
         for (int supply : new int[] {0, 13, -1, Integer.MIN_VALUE, Integer.MAX_VALUE}) {
             Checks.refused(grid, "granted " + supply, Checks.ARGUMENT, () -> grid.granted(0, 2, supply, true));
         }
@@ -486,11 +475,11 @@ public final class PromisesTest {
     }
 
     private static void kept() {
-        SupplyGrid grid = busy();
+        Run grid = busy();
         for (int what : new int[] {-1, 9, Integer.MIN_VALUE, Integer.MAX_VALUE}) {
             Checks.refused(grid, "kept " + what, Checks.ARGUMENT, () -> grid.kept(0, 4, what));
         }
-        SupplyGrid one = with(2, 3, 0);
+        Run one = Scenes.with(2, 3, 0);
         one.ask(13, 2, 55);
         one.deliverAll(25);
         Checks.same("kept of the asking shop", "38 0 -1 -1 38 0 38 1 0", Checks.kept(one, 13, 2));
@@ -511,7 +500,7 @@ public final class PromisesTest {
     }
 
     private static void live() {
-        SupplyGrid grid = new SupplyGrid();
+        Run grid = new Run();
         for (int shop = 0; shop < 5; shop++) {
             Checks.due("live before " + shop, 3, grid.live());
             grid.up(shop, false);
@@ -537,7 +526,7 @@ public final class PromisesTest {
     }
 
     private static void total() {
-        SupplyGrid grid = with(0, 1, 0);
+        Run grid = Scenes.with(0, 1, 0);
         for (int what : new int[] {-1, 3, Integer.MIN_VALUE, Integer.MAX_VALUE}) {
             Checks.refused(grid, "total " + what, Checks.ARGUMENT, () -> grid.total(what));
         }
@@ -559,7 +548,7 @@ public final class PromisesTest {
     }
 
     private static void readingWrongly() {
-        SupplyGrid grid = busy();
+        Run grid = busy();
         for (int shop : NO_SHOPS) {
             Checks.refused(grid, "state of shop " + shop, Checks.ARGUMENT, () -> grid.state(shop, 4));
             Checks.refused(grid, "granted of shop " + shop, Checks.ARGUMENT, () -> grid.granted(shop, 4, 1, true));

@@ -11,7 +11,7 @@ public final class RandomRunsTest {
     private final int shops;
     private final int prescriptions;
     private final int dropping;
-    private final SupplyGrid grid = new SupplyGrid();
+    private final Run grid = new Run();
     private final PlainGrid plain = new PlainGrid();
     private final int[][] decided = new int[20][13];
     private String call = "";

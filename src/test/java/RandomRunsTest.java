@@ -11,10 +11,10 @@ public final class RandomRunsTest {
     private final int shops;
     private final int prescriptions;
     private final int dropping;
-    private final Run grid = new Run();
-    private final PlainGrid plain = new PlainGrid();
+    private final Twins twins = new Twins();
+    private final Run grid = twins.grid;
+    private final PlainGrid plain = twins.plain;
     private final int[][] decided = new int[20][13];
-    private String call = "";
 
     private RandomRunsTest(long seed) {
         random = new Random(seed);
@@ -33,26 +33,20 @@ public final class RandomRunsTest {
     }
 
     private int run(int seed) {
+        String run = "seed " + seed;
         int calls = 0;
-        for (int i = 0; i < prescriptions; i++) {
-            int prescription = i;
+        for (; calls < prescriptions; calls++) {
             int supplies = random.nextInt(3) == 0 ? 12 : 1 + random.nextInt(12);
             int apart = random.nextInt(3) == 0 ? 0 : random.nextInt(91);
-            grid.register(prescription, supplies, apart);
-            plain.register(prescription, supplies, apart);
-            calls++;
+            twins.agree(run, Twins.REGISTER, calls, supplies, apart);
         }
         for (; calls < 512; calls++) {
-            int[] arguments = pick();
-            int want = Checks.answer(() -> onPlain(arguments));
-            int got = Checks.answer(() -> onGrid(arguments));
-            Checks.due("seed " + seed + ", call " + calls + ", " + call, want, got);
-            if (got != want) {
+            if (!twins.agree(run + ", call " + calls, pick())) {
                 return 0;
             }
         }
-        compareAll("seed " + seed);
-        return agree("seed " + seed);
+        compareAll(run);
+        return agree(run);
     }
 
     private int someShop() {
@@ -85,90 +79,47 @@ public final class RandomRunsTest {
         int prescription = somePrescription();
         int chance = random.nextInt(100);
         if (chance < 12) {
-            return new int[] {0, shop, prescription, someDay(shop, prescription)};
+            return new int[] {Twins.ASK, shop, prescription, someDay(shop, prescription)};
         }
         if (chance < 18) {
-            return new int[] {1, shop, prescription};
+            return new int[] {Twins.RETRY, shop, prescription};
         }
         if (chance < 45) {
-            return new int[] {2, someLetter()};
+            return new int[] {Twins.DELIVER, someLetter()};
         }
         if (chance < 48) {
-            return new int[] {dropping == 0 ? 2 : 3, someLetter()};
+            return new int[] {dropping == 0 ? Twins.DELIVER : Twins.DROP, someLetter()};
         }
         if (chance < 52) {
-            return new int[] {4, someLetter()};
+            return new int[] {Twins.COPY, someLetter()};
         }
         if (chance < 66) {
             int n = random.nextInt(40) == 0 ? random.nextInt(2200) - 60 : random.nextInt(dropping == 2 ? 50 : 200);
-            return new int[] {5, n};
+            return new int[] {Twins.DELIVER_ALL, n};
         }
         if (chance < 71) {
-            return new int[] {6, random.nextInt(25), random.nextInt(3) == 0 ? 0 : 1};
+            return new int[] {Twins.UP, random.nextInt(25), random.nextInt(3) == 0 ? 0 : 1};
         }
         if (chance < 74) {
-            return new int[] {7, shop, someShop(), prescription};
+            return new int[] {Twins.TEACH, shop, someShop(), prescription};
         }
         return pickReading(shop, prescription, chance);
     }
 
     private int[] pickReading(int shop, int prescription, int chance) {
         if (chance < 84) {
-            return new int[] {8, someLetter(), random.nextInt(11)};
+            return new int[] {Twins.LETTER, someLetter(), random.nextInt(11)};
         }
         if (chance < 86) {
-            return new int[] {9, shop, prescription};
+            return new int[] {Twins.STATE, shop, prescription};
         }
         if (chance < 89) {
-            return new int[] {10, shop, prescription, random.nextInt(15) - 1, random.nextInt(2)};
+            return new int[] {Twins.GRANTED, shop, prescription, random.nextInt(15) - 1, random.nextInt(2)};
         }
         if (chance < 97) {
-            return new int[] {11, shop, prescription, random.nextInt(10)};
+            return new int[] {Twins.KEPT, shop, prescription, random.nextInt(10)};
         }
-        return chance == 97 ? new int[] {12} : new int[] {13, random.nextInt(5) - 1};
-    }
-
-    private static int bit(boolean yes) {
-        return yes ? 1 : 0;
-    }
-
-    private int onGrid(int[] a) {
-        call = java.util.Arrays.toString(a);
-        switch (a[0]) {
-            case 0: return grid.ask(a[1], a[2], a[3]);
-            case 1: return grid.retry(a[1], a[2]);
-            case 2: return grid.deliver(a[1]);
-            case 3: return grid.drop(a[1]);
-            case 4: return bit(grid.copy(a[1]));
-            case 5: return grid.deliverAll(a[1]);
-            case 6: return bit(grid.up(a[1], a[2] == 1));
-            case 7: return bit(grid.teach(a[1], a[2], a[3]));
-            case 8: return grid.letter(a[1], a[2]);
-            case 9: return grid.state(a[1], a[2]);
-            case 10: return grid.granted(a[1], a[2], a[3], a[4] == 1);
-            case 11: return grid.kept(a[1], a[2], a[3]);
-            case 12: return grid.live() * 1000 + grid.pool();
-            default: return grid.total(a[1]);
-        }
-    }
-
-    private int onPlain(int[] a) {
-        switch (a[0]) {
-            case 0: return plain.ask(a[1], a[2], a[3]);
-            case 1: return plain.retry(a[1], a[2]);
-            case 2: return plain.deliver(a[1]);
-            case 3: return plain.drop(a[1]);
-            case 4: return bit(plain.copy(a[1]));
-            case 5: return plain.deliverAll(a[1]);
-            case 6: return bit(plain.up(a[1], a[2] == 1));
-            case 7: return bit(plain.teach(a[1], a[2], a[3]));
-            case 8: return plain.letter(a[1], a[2]);
-            case 9: return plain.state(a[1], a[2]);
-            case 10: return plain.granted(a[1], a[2], a[3], a[4] == 1);
-            case 11: return plain.kept(a[1], a[2], a[3]);
-            case 12: return plain.live() * 1000 + plain.letters.size();
-            default: return plain.total(a[1]);
-        }
+        return chance == 97 ? new int[] {Twins.LIVE} : new int[] {Twins.TOTAL, random.nextInt(5) - 1};
     }
 
     private void compareAll(String run) {
